@@ -70,7 +70,7 @@ public final class PairedCells {
 
     public void cutAfter(int n) throws IllegalArgumentException {
         if (n < 0 || n > LATEST_CUT) {
-            throw new IllegalArgumentException("a cut is set for programming 1 to 60, or 0 for none");
+            throw new IllegalArgumentException("a cut is set for 1 to 60, or 0 for none");
         }
         cutIn = n;
     }
@@ -348,7 +348,7 @@ public final class PairedCells {
         return erased;
     }
 
-    /** The bytes of a page of the log: how many events, the first one's number, lengths and bytes. */
+    /** A page of the log: its events' count, the first one's number, then lengths and bytes. */
     private static final class EventPage {
         private final int[] bytes = new int[PAGE_BYTES];
 
@@ -416,7 +416,7 @@ public final class PairedCells {
         }
     }
 
-    /** The pages of a block, each at its place in the order (the upper ones last), and its guard page. */
+    /** A block: its pages, each at its place in the order, and its guard page. */
     private static final class Block {
         private final int[] states = new int[PAGES];
         private final int[] bytes = new int[PAGES * PAGE_BYTES];

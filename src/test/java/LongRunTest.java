@@ -80,7 +80,7 @@ public final class LongRunTest {
             compare("sync", x::sync, model::sync);
             return;
         }
-        int n = random.nextInt(40) == 0 ? wild(6) : seed % 2 == 0 ? 6 : 1 + random.nextInt(6);
+        int n = random.nextInt(40) == 0 ? wild(7) : seed % 2 == 0 ? 6 : 1 + random.nextInt(6);
         long w = random.nextLong();
         compare("append", () -> x.append(n, w), () -> model.append(n, w));
     }
@@ -114,7 +114,7 @@ public final class LongRunTest {
 
     /** Mostly less than the bound and not negative, at times not. */
     private int wild(int bound) {
-        return random.nextInt(20) == 0 ? (random.nextBoolean() ? random.nextInt() : random.nextInt(3) - 2 + bound)
+        return random.nextInt(20) == 0 ? (random.nextBoolean() ? random.nextInt() : random.nextInt(4) - 2 + bound)
                 : random.nextInt(bound);
     }
 

@@ -38,6 +38,7 @@ public final class PromiseTest {
         at();
         guard();
         guardWithoutRuinedPages();
+        guardOfBlockUsedAgain();
         guarded();
         told();
         CHECKS.finish();
@@ -60,6 +61,13 @@ public final class PromiseTest {
     private static void restart(PairedCells x) {
         x.off();
         x.start();
+    }
+
+    private static void ruinBlock(PairedCells x, int block) {
+        for (int line = 0; line < 8; line++) {
+            x.ruin(block, line, false);
+            x.ruin(block, line, true);
+        }
     }
 
     private static void newObject() {
@@ -301,10 +309,7 @@ public final class PromiseTest {
         CHECKS.same("start: its pages", 0, x.page(1, 0, false));
         CHECKS.same("start: erased blocks are not erased", 0, x.told(12));
         CHECKS.same("start: all are erased but one", 5, x.told(2));
-        for (int line = 0; line < 8; line++) {
-            x.ruin(0, line, false);
-            x.ruin(0, line, true);
-        }
+        ruinBlock(x, 0);
         CHECKS.same("start: a guard page is written still", 1, x.guard(0));
         restart(x);
         CHECKS.same("start: it is erased with the block", 0, x.guard(0));
@@ -336,6 +341,11 @@ public final class PromiseTest {
         y.start();
         CHECKS.same("start: a greater event before", 1, y.told(0));
         CHECKS.same("start: its number", 32, y.count());
+        ruinBlock(y, 0);
+        ruinBlock(y, 1);
+        restart(y);
+        CHECKS.same("start: block 0 if there are no events", 0, y.told(0));
+        CHECKS.same("start: all blocks are erased then", 6, y.told(2));
     }
 
     private static void trim() {
@@ -377,10 +387,7 @@ public final class PromiseTest {
         CHECKS.same("trim: two are not rebuilt", 1, x.trim(23));
         CHECKS.same("trim: so their block goes", 1, x.told(11));
         PairedCells y = filled(17);
-        for (int line = 0; line < 8; line++) {
-            y.ruin(0, line, false);
-            y.ruin(0, line, true);
-        }
+        ruinBlock(y, 0);
         CHECKS.same("trim: a block without a readable page goes", 1, y.trim(0));
     }
 
@@ -578,6 +585,20 @@ public final class PromiseTest {
         for (int k = 0; k < 17; k++) {
             CHECKS.same("guard: of no page", 0, y.guarded(0, k));
         }
+    }
+
+    private static void guardOfBlockUsedAgain() {
+        PairedCells x = filled(9);
+        ruinBlock(x, 0);
+        restart(x);
+        fill(x, 8);
+        x.ruin(0, 1, false);
+        CHECKS.same("guard: an erased one rebuilds nothing", 2, x.page(0, 1, false));
+        fill(x, 1);
+        CHECKS.same("guard: it covers what is written now", 0xFF & ~(1 << 1), x.guarded(0, 16));
+        x.ruin(0, 0, false);
+        CHECKS.same("guard: and rebuilds that", 100, x.event(0));
+        CHECKS.same("guard: but no other", 2, x.page(0, 1, false));
     }
 
     private static void guarded() {
