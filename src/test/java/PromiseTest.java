@@ -44,32 +44,6 @@ public final class PromiseTest {
         CHECKS.finish();
     }
 
-    /** An object with that many programmed pages, one event of one byte (its number + 100) in each. */
-    private static PairedCells filled(int pages) {
-        PairedCells x = new PairedCells();
-        fill(x, pages);
-        return x;
-    }
-
-    private static void fill(PairedCells x, int pages) {
-        for (int k = 0; k < pages; k++) {
-            x.append(1, x.count() + 100);
-            x.sync();
-        }
-    }
-
-    private static void restart(PairedCells x) {
-        x.off();
-        x.start();
-    }
-
-    private static void ruinBlock(PairedCells x, int block) {
-        for (int line = 0; line < 8; line++) {
-            x.ruin(block, line, false);
-            x.ruin(block, line, true);
-        }
-    }
-
     private static void newObject() {
         PairedCells x = new PairedCells();
         CHECKS.same("new: power", 1, x.told(1));
@@ -123,7 +97,7 @@ public final class PromiseTest {
     }
 
     private static void appendWhenFull() {
-        PairedCells x = filled(96);
+        PairedCells x = Logs.filled(96);
         CHECKS.same("full: the last block is current", 5, x.told(0));
         CHECKS.same("full: an event still fits in the open page", 96, x.append(6, 1));
         CHECKS.same("full: and another one", 97, x.append(5, 2));
@@ -149,19 +123,19 @@ public final class PromiseTest {
         CHECKS.same("sync: page", 1, x.page(0, 0, false));
         CHECKS.same("sync: again", 2, x.sync());
         CHECKS.same("sync: no page more", 0, x.page(0, 1, false));
-        restart(x);
+        Logs.restart(x);
         CHECKS.same("sync: what was written stays", 2, x.event(1));
         for (int line = 1; line < 8; line++) {
-            fill(x, 1);
+            Logs.fill(x, 1);
             CHECKS.same("sync: lower pages in their order", 1, x.page(0, line, false));
         }
         for (int line = 0; line < 8; line++) {
             CHECKS.same("sync: upper page before", 0, x.page(0, line, true));
-            fill(x, 1);
+            Logs.fill(x, 1);
             CHECKS.same("sync: upper pages in their order", 1, x.page(0, line, true));
         }
         CHECKS.same("sync: the block stays the current one", 0, x.told(0));
-        fill(x, 1);
+        Logs.fill(x, 1);
         CHECKS.same("sync: the next block", 1, x.told(0));
         CHECKS.same("sync: its first page", 1, x.page(1, 0, false));
         x.off();
@@ -169,7 +143,7 @@ public final class PromiseTest {
     }
 
     private static void syncWhenFull() {
-        PairedCells x = filled(96);
+        PairedCells x = Logs.filled(96);
         CHECKS.same("full: sync of no events", 96, x.sync());
         x.append(1, 5);
         x.cutAfter(1);
@@ -191,18 +165,18 @@ public final class PromiseTest {
         CHECKS.same("cutAfter: 60", 60, x.told(3));
         x.cutAfter(0);
         CHECKS.same("cutAfter: 0", 0, x.told(3));
-        fill(x, 1);
+        Logs.fill(x, 1);
         CHECKS.same("cutAfter: 0 cuts nothing", 1, x.told(1));
         x.cutAfter(3);
-        fill(x, 2);
+        Logs.fill(x, 2);
         CHECKS.same("cutAfter: counts programmings", 1, x.told(3));
-        restart(x);
+        Logs.restart(x);
         CHECKS.same("cutAfter: stays set over off and start", 1, x.told(3));
         x.off();
         x.cutAfter(2);
         CHECKS.same("cutAfter: goes with the power off", 2, x.told(3));
         x.start();
-        fill(x, 1);
+        Logs.fill(x, 1);
         CHECKS.same("cutAfter: not yet", 1, x.told(1));
         x.append(1, 1);
         CHECKS.same("cutAfter: now", PairedCells.CUT, x.sync());
@@ -211,7 +185,7 @@ public final class PromiseTest {
     }
 
     private static void cutAtLowerPage() {
-        PairedCells x = filled(2);
+        PairedCells x = Logs.filled(2);
         x.cutAfter(1);
         x.append(6, 1);
         x.append(5, 2);
@@ -224,7 +198,7 @@ public final class PromiseTest {
         x.sync();
         CHECKS.same("cut: a ruined lower page is passed over", 1, x.page(0, 3, false));
         CHECKS.same("cut: the block stays", 0, x.told(0));
-        PairedCells y = filled(16);
+        PairedCells y = Logs.filled(16);
         y.append(1, 9);
         y.cutAfter(1);
         y.sync();
@@ -236,7 +210,7 @@ public final class PromiseTest {
 
     private static void cutAtUpperPage() {
         for (int line = 0; line < 8; line++) {
-            PairedCells x = filled(8 + line);
+            PairedCells x = Logs.filled(8 + line);
             x.append(1, 9);
             x.cutAfter(line == 0 ? 2 : 1);
             CHECKS.same("cut: sync", PairedCells.CUT, x.sync());
@@ -244,14 +218,14 @@ public final class PromiseTest {
             CHECKS.same("cut: lower page is rebuilt", 3, x.page(0, line, false));
             CHECKS.same("cut: what was written stays", 8 + line, x.start());
             CHECKS.same("cut: also on the lower page", 100 + line, x.event(line));
-            fill(x, 1);
+            Logs.fill(x, 1);
             CHECKS.same("cut: the block takes no more", 1, x.told(0));
             CHECKS.same("cut: the next one does", 1, x.page(1, 0, false));
         }
     }
 
     private static void cutAtGuardPage() {
-        PairedCells x = filled(8);
+        PairedCells x = Logs.filled(8);
         x.append(1, 9);
         x.cutAfter(1);
         CHECKS.same("cut: guard", PairedCells.CUT, x.sync());
@@ -259,14 +233,14 @@ public final class PromiseTest {
         CHECKS.same("cut: not the upper page", 0, x.page(0, 0, true));
         CHECKS.same("cut: nor the lower page", 1, x.page(0, 0, false));
         CHECKS.same("cut: all events stay", 8, x.start());
-        fill(x, 1);
+        Logs.fill(x, 1);
         CHECKS.same("cut: the guard page is programmed again", 1, x.guard(0));
         CHECKS.same("cut: and the upper page", 1, x.page(0, 0, true));
         CHECKS.same("cut: no block was erased", 0, x.told(10));
     }
 
     private static void off() {
-        PairedCells x = filled(1);
+        PairedCells x = Logs.filled(1);
         x.append(1, 1);
         x.append(2, 2);
         CHECKS.same("off: events in the open page", 2, x.off());
@@ -283,10 +257,10 @@ public final class PromiseTest {
         CHECKS.same("start: no events", 0, x.start());
         CHECKS.same("start: first of none", 0, x.first());
         CHECKS.same("start: power", 1, x.told(1));
-        fill(x, 3);
+        Logs.fill(x, 3);
         x.append(1, 1);
         x.ruin(0, 0, false);
-        restart(x);
+        Logs.restart(x);
         CHECKS.same("start: first readable", 1, x.first());
         CHECKS.same("start: count", 3, x.count());
         x.ruin(0, 2, false);
@@ -298,9 +272,9 @@ public final class PromiseTest {
     }
 
     private static void startErasesUnreadableBlocks() {
-        PairedCells x = filled(18);
+        PairedCells x = Logs.filled(18);
         x.ruin(1, 0, false);
-        restart(x);
+        Logs.restart(x);
         CHECKS.same("start: a block with a readable page stays", 0, x.told(11));
         x.ruin(1, 1, false);
         x.off();
@@ -309,9 +283,9 @@ public final class PromiseTest {
         CHECKS.same("start: its pages", 0, x.page(1, 0, false));
         CHECKS.same("start: erased blocks are not erased", 0, x.told(12));
         CHECKS.same("start: all are erased but one", 5, x.told(2));
-        ruinBlock(x, 0);
+        Logs.ruinBlock(x, 0);
         CHECKS.same("start: a guard page is written still", 1, x.guard(0));
-        restart(x);
+        Logs.restart(x);
         CHECKS.same("start: it is erased with the block", 0, x.guard(0));
         CHECKS.same("start: no event is left", 0, x.count());
         CHECKS.same("start: so block 0 is current", 0, x.told(0));
@@ -319,20 +293,20 @@ public final class PromiseTest {
     }
 
     private static void startFindsCurrentBlock() {
-        PairedCells x = filled(96);
+        PairedCells x = Logs.filled(96);
         x.trim(32);
-        fill(x, 3);
+        Logs.fill(x, 3);
         CHECKS.same("start: current before", 0, x.told(0));
-        restart(x);
+        Logs.restart(x);
         CHECKS.same("start: the block with the greatest event", 0, x.told(0));
         CHECKS.same("start: count", 99, x.count());
         CHECKS.same("start: first", 32, x.first());
         for (int line = 0; line < 3; line++) {
             x.ruin(0, line, false);
         }
-        restart(x);
+        Logs.restart(x);
         CHECKS.same("start: the block before", 5, x.told(0));
-        PairedCells y = filled(40);
+        PairedCells y = Logs.filled(40);
         for (int line = 0; line < 8; line++) {
             y.ruin(2, line, false);
         }
@@ -341,15 +315,15 @@ public final class PromiseTest {
         y.start();
         CHECKS.same("start: a greater event before", 1, y.told(0));
         CHECKS.same("start: its number", 32, y.count());
-        ruinBlock(y, 0);
-        ruinBlock(y, 1);
-        restart(y);
+        Logs.ruinBlock(y, 0);
+        Logs.ruinBlock(y, 1);
+        Logs.restart(y);
         CHECKS.same("start: block 0 if there are no events", 0, y.told(0));
         CHECKS.same("start: all blocks are erased then", 6, y.told(2));
     }
 
     private static void trim() {
-        PairedCells x = filled(40);
+        PairedCells x = Logs.filled(40);
         x.append(1, 1);
         CHECKS.fails("trim: -1", ARGUMENT, () -> x.trim(-1));
         CHECKS.fails("trim: behind count()", ARGUMENT, () -> x.trim(42));
@@ -371,12 +345,12 @@ public final class PromiseTest {
         x.off();
         CHECKS.fails("trim: power off", STATE, () -> x.trim(41));
         CHECKS.fails("trim: power off goes before n", STATE, () -> x.trim(-1));
-        PairedCells y = filled(40);
+        PairedCells y = Logs.filled(40);
         CHECKS.same("trim: two at once", 2, y.trim(32));
     }
 
     private static void trimOfUnreadableBlocks() {
-        PairedCells x = filled(33);
+        PairedCells x = Logs.filled(33);
         for (int line = 0; line < 8; line++) {
             x.ruin(1, line, true);
         }
@@ -386,13 +360,13 @@ public final class PromiseTest {
         x.ruin(1, 6, false);
         CHECKS.same("trim: two are not rebuilt", 1, x.trim(23));
         CHECKS.same("trim: so their block goes", 1, x.told(11));
-        PairedCells y = filled(17);
-        ruinBlock(y, 0);
+        PairedCells y = Logs.filled(17);
+        Logs.ruinBlock(y, 0);
         CHECKS.same("trim: a block without a readable page goes", 1, y.trim(0));
     }
 
     private static void trimmedEventsComeBack() {
-        PairedCells x = filled(3);
+        PairedCells x = Logs.filled(3);
         x.append(1, 50);
         x.trim(4);
         CHECKS.same("trim: the open page is flushed all the same", 4, x.sync());
@@ -415,7 +389,7 @@ public final class PromiseTest {
         x.off();
         CHECKS.fails("first: power off", STATE, x::first);
         CHECKS.fails("count: power off", STATE, x::count);
-        PairedCells y = filled(2);
+        PairedCells y = Logs.filled(2);
         y.ruin(0, 0, false);
         CHECKS.same("first: a lost one", 0, y.first());
     }
@@ -467,13 +441,13 @@ public final class PromiseTest {
         CHECKS.same("event: the number's high byte", 1, x.at(3, 1, false, 1));
         CHECKS.same("event: its low byte", 294 & 255, x.at(3, 1, false, 2));
         CHECKS.same("event: 6 of one byte in a page", 6, x.at(3, 1, false, 0));
-        restart(x);
+        Logs.restart(x);
         CHECKS.same("event: count", 300, x.count());
         CHECKS.same("event: 256", 0, x.event(256));
     }
 
     private static void ruin() {
-        PairedCells x = filled(9);
+        PairedCells x = Logs.filled(9);
         CHECKS.same("ruin: an erased page", false, x.ruin(0, 1, true));
         CHECKS.same("ruin: an upper page", true, x.ruin(0, 0, true));
         CHECKS.same("ruin: by itself", 1, x.page(0, 0, false));
@@ -492,7 +466,7 @@ public final class PromiseTest {
     }
 
     private static void page() {
-        PairedCells x = filled(9);
+        PairedCells x = Logs.filled(9);
         CHECKS.same("page: erased", 0, x.page(0, 1, true));
         CHECKS.same("page: written", 1, x.page(0, 0, true));
         x.ruin(0, 0, true);
@@ -510,13 +484,13 @@ public final class PromiseTest {
         for (int line : WRONG_LINES) {
             CHECKS.fails("page: line " + line, INDEX, () -> x.page(5, line, false));
         }
-        PairedCells y = filled(8);
+        PairedCells y = Logs.filled(8);
         y.ruin(0, 0, false);
         CHECKS.same("page: no guard page yet", 2, y.page(0, 0, false));
     }
 
     private static void at() {
-        PairedCells x = filled(9);
+        PairedCells x = Logs.filled(9);
         CHECKS.same("at: written", 102, x.at(0, 2, false, 4));
         x.ruin(0, 2, false);
         int[] due = {1, 0, 2, 1, 102, 0, 0, 0, 0, 0, 0, 0, 0, 0, 0, 0};
@@ -541,7 +515,7 @@ public final class PromiseTest {
     }
 
     private static void guard() {
-        PairedCells x = filled(8);
+        PairedCells x = Logs.filled(8);
         CHECKS.same("guard: erased", 0, x.guard(0));
         x.append(1, 1);
         x.cutAfter(1);
@@ -550,12 +524,12 @@ public final class PromiseTest {
         x.start();
         CHECKS.same("guard: stays ruined", 2, x.guard(0));
         x.cutAfter(3);
-        fill(x, 1);
+        Logs.fill(x, 1);
         CHECKS.same("guard: written", 1, x.guard(0));
         CHECKS.same("guard: it counts as one programming", 1, x.told(3));
         x.cutAfter(0);
-        fill(x, 7);
-        fill(x, 1);
+        Logs.fill(x, 7);
+        Logs.fill(x, 1);
         CHECKS.same("guard: the next block has none yet", 0, x.guard(1));
         x.off();
         CHECKS.same("guard: the power does not matter", 1, x.guard(0));
@@ -565,10 +539,10 @@ public final class PromiseTest {
     }
 
     private static void guardWithoutRuinedPages() {
-        PairedCells x = filled(8);
+        PairedCells x = Logs.filled(8);
         x.ruin(0, 2, false);
         x.ruin(0, 5, false);
-        fill(x, 1);
+        Logs.fill(x, 1);
         CHECKS.same("guard: covers the written pages", 0xFF & ~(1 << 2 | 1 << 5), x.guarded(0, 16));
         CHECKS.same("guard: a page that it does not cover", 2, x.page(0, 2, false));
         x.ruin(0, 0, false);
@@ -577,24 +551,24 @@ public final class PromiseTest {
         CHECKS.same("guard: the other one stays lost", PairedCells.NONE, x.length(2));
         x.ruin(0, 7, false);
         CHECKS.same("guard: two that it covers", 2, x.page(0, 0, false));
-        PairedCells y = filled(8);
+        PairedCells y = Logs.filled(8);
         for (int line = 0; line < 8; line++) {
             y.ruin(0, line, false);
         }
-        fill(y, 1);
+        Logs.fill(y, 1);
         for (int k = 0; k < 17; k++) {
             CHECKS.same("guard: of no page", 0, y.guarded(0, k));
         }
     }
 
     private static void guardOfBlockUsedAgain() {
-        PairedCells x = filled(9);
-        ruinBlock(x, 0);
-        restart(x);
-        fill(x, 8);
+        PairedCells x = Logs.filled(9);
+        Logs.ruinBlock(x, 0);
+        Logs.restart(x);
+        Logs.fill(x, 8);
         x.ruin(0, 1, false);
         CHECKS.same("guard: an erased one rebuilds nothing", 2, x.page(0, 1, false));
-        fill(x, 1);
+        Logs.fill(x, 1);
         CHECKS.same("guard: it covers what is written now", 0xFF & ~(1 << 1), x.guarded(0, 16));
         x.ruin(0, 0, false);
         CHECKS.same("guard: and rebuilds that", 100, x.event(0));
@@ -608,7 +582,7 @@ public final class PromiseTest {
             x.sync();
         }
         CHECKS.fails("guarded: erased", NO_ELEMENT, () -> x.guarded(0, 0));
-        fill(x, 1);
+        Logs.fill(x, 1);
         CHECKS.same("guarded: how many", 0, x.guarded(0, 0));
         CHECKS.same("guarded: numbers 0 to 7", 0, x.guarded(0, 2));
         for (int k = 4; k < 10; k++) {
@@ -626,7 +600,7 @@ public final class PromiseTest {
         }
         x.off();
         CHECKS.same("guarded: the power does not matter", 255, x.guarded(0, 4));
-        PairedCells y = filled(8);
+        PairedCells y = Logs.filled(8);
         y.append(1, 1);
         y.cutAfter(1);
         y.sync();
@@ -634,7 +608,7 @@ public final class PromiseTest {
     }
 
     private static void told() {
-        PairedCells x = filled(17);
+        PairedCells x = Logs.filled(17);
         CHECKS.same("told: current", 1, x.told(0));
         CHECKS.same("told: power", 1, x.told(1));
         CHECKS.same("told: erased blocks", 4, x.told(2));
